@@ -17,7 +17,12 @@ public final class KeptInside {
     private static final int MAKE = 0, COPY = 1, PUT = 2, TAKE = 3, SHOW = 4, FETCH = 5, LOCK = 6, CALL = 7;
     private static final int FATE_KEPT = 0, FATE_OUT = 1, FATE_OPEN = 2;
 
-    /** Answers of reads() below this one are told by a FAULT, so that no refusal looks like one. */
+    private static final int FATES = 3;
+
+    /** How many questions there are of each kind: the bound of its 'what'. */
+    private static final int OF_METHOD = 5, OF_LINE = 5, OF_SITE = 4, OF_RUN = 6, OF_SITE_RUN = 3, OF_ALL = 7;
+
+    /** A FAULT's place is taken from here, so that no refusal can look like one. */
     private static final int FAULT_ANSWER = -10;
 
     private final Text text = new Text();
@@ -26,9 +31,9 @@ public final class KeptInside {
     private final Reader reader = new Reader(text, newMethods);
     private final States states = new States();
     private final Sites sites = new Sites();
-    private final MaySets sets = new MaySets(methods, sites);
-    private final Fates fates = new Fates(methods, sites, sets);
-    private final Trial trial = new Trial(methods, sites, fates);
+    private final MaySets mays = new MaySets(methods, sites);
+    private final Fates siteFates = new Fates(methods, sites, mays);
+    private final Trial trial = new Trial(methods, sites, siteFates);
 
     private int timesBad;
     private int timesNo;
@@ -44,7 +49,7 @@ public final class KeptInside {
     // ---- methods
 
     public int type(int c) {
-        if (c < 0 || c > 127) {
+        if (isOutside(c, 128)) {
             return refusedAsBad();
         }
         if (text.isFull()) {
@@ -61,13 +66,12 @@ public final class KeptInside {
     }
 
     public int reads() {
-        int fault = reader.findFault();
+        int fault = reader.readAll();
         if (fault != NONE) {
             return FAULT_ANSWER - fault;
         }
-        states.keep(methods);
+        leaveState();
         methods.becomeLike(newMethods);
-        forgetFindings();
         return methods.count();
     }
 
@@ -75,9 +79,8 @@ public final class KeptInside {
         if (!methods.hasLine(m, i)) {
             return refusedAsBad();
         }
-        states.keep(methods);
+        leaveState();
         methods.removeLine(m, i);
-        forgetFindings();
         return methods.lines(m);
     }
 
@@ -85,66 +88,35 @@ public final class KeptInside {
         if (!methods.hasLine(m, i) || !methods.hasLine(m, i + 1)) {
             return refusedAsBad();
         }
-        states.keep(methods);
+        leaveState();
         methods.swapWithNext(m, i);
-        forgetFindings();
         return 1;
     }
 
     public int of(int m, int what) {
-        if (!methods.has(m) || isOutside(what, 5)) {
+        if (!methods.has(m) || isOutside(what, OF_METHOD)) {
             return refusedAsBad();
         }
         findMays();
-        switch (what) {
-            case 0:
-                return methods.lines(m);
-            case 1:
-                return sites.inMethod(m);
-            case 2:
-                return fates.keptIn(m);
-            case 3:
-                return fates.idleLines(m);
-            default:
-                return methods.calledBy(m);
-        }
+        return ofMethod(m, what);
     }
 
     public int line(int m, int i, int what) {
-        if (!methods.hasLine(m, i) || isOutside(what, 5)) {
+        if (!methods.hasLine(m, i) || isOutside(what, OF_LINE)) {
             return refusedAsBad();
         }
         findMays();
-        switch (what) {
-            case 0:
-                return methods.sort(m, i);
-            case 1:
-                return methods.name(m, i);
-            case 2:
-                return methods.hasOther(m, i) ? methods.other(m, i) : NONE;
-            case 3:
-                return methods.sort(m, i) == CALL ? methods.callee(m, i) : NONE;
-            default:
-                return sites.ofLine(m, i);
-        }
+        return ofLine(m, i, what);
     }
 
     // ---- what may be
 
     public int site(int s, int what) {
-        if (isOutside(s, siteCount()) || isOutside(what, 4)) {
+        findMays();
+        if (isOutside(s, sites.count()) || isOutside(what, OF_SITE)) {
             return refusedAsBad();
         }
-        switch (what) {
-            case 0:
-                return sites.method(s);
-            case 1:
-                return sites.line(s);
-            case 2:
-                return fates.ofSite(s);
-            default:
-                return sets.ofField(s);
-        }
+        return ofSite(s, what);
     }
 
     public int may(int m, int x) {
@@ -152,12 +124,12 @@ public final class KeptInside {
             return refusedAsBad();
         }
         findMays();
-        return sets.ofName(m, x);
+        return mays.inName(m, x);
     }
 
     public int open() {
         findMays();
-        return sets.ofOpenPlace();
+        return mays.inOpenPlace();
     }
 
     public int reached(int m, int x) {
@@ -165,53 +137,34 @@ public final class KeptInside {
             return refusedAsBad();
         }
         findMays();
-        return sets.reachedFrom(sets.ofName(m, x));
+        return mays.reachedFrom(mays.inName(m, x));
     }
 
     public int fates(int fate) {
-        if (isOutside(fate, 3)) {
+        if (isOutside(fate, FATES)) {
             return refusedAsBad();
         }
         findMays();
-        return fates.countOf(fate);
+        return siteFates.countOf(fate);
     }
 
     // ---- runs
 
     public int run(int what) {
-        if (isOutside(what, 6)) {
+        if (isOutside(what, OF_RUN)) {
             return refusedAsBad();
         }
         findRun();
-        switch (what) {
-            case 0:
-                return trial.failed() ? 1 : 0;
-            case 1:
-                return trial.made();
-            case 2:
-                return trial.locks();
-            case 3:
-                return trial.idleLocks();
-            case 4:
-                return trial.calls();
-            default:
-                return trial.leaks();
-        }
+        return ofRun(what);
     }
 
     public int ran(int s, int what) {
-        if (isOutside(s, siteCount()) || isOutside(what, 3)) {
+        findMays();
+        if (isOutside(s, sites.count()) || isOutside(what, OF_SITE_RUN)) {
             return refusedAsBad();
         }
         findRun();
-        switch (what) {
-            case 0:
-                return trial.madeOf(s);
-            case 1:
-                return trial.leaksOf(s);
-            default:
-                return trial.locksOf(s);
-        }
+        return ofSiteRun(s, what);
     }
 
     public int held() {
@@ -231,6 +184,131 @@ public final class KeptInside {
     }
 
     public int told(int what) {
+        if (isOutside(what, OF_ALL)) {
+            return refusedAsBad();
+        }
+        findMays();
+        return ofAll(what);
+    }
+
+    public long digest() {
+        findRun();
+        long h = 2503;
+        for (int what = 0; what < OF_ALL; what++) {
+            h = 31 * h + ofAll(what);
+        }
+        for (int m = 0; m < methods.count(); m++) {
+            h = digestWithMethod(h, m);
+        }
+        for (int s = 0; s < sites.count(); s++) {
+            h = digestWithSite(h, s);
+        }
+        h = 31 * h + mays.inOpenPlace();
+        for (int what = 0; what < OF_RUN; what++) {
+            h = 31 * h + ofRun(what);
+        }
+        return 31 * h + trial.siteInOpenPlace();
+    }
+
+    private long digestWithMethod(long before, int m) {
+        long h = before;
+        for (int what = 0; what < OF_METHOD; what++) {
+            h = 31 * h + ofMethod(m, what);
+        }
+        for (int x = 0; x < NAMES; x++) {
+            h = 31 * h + mays.inName(m, x);
+        }
+        for (int i = 0; i < methods.lines(m); i++) {
+            for (int what = 0; what < OF_LINE; what++) {
+                h = 31 * h + ofLine(m, i, what);
+            }
+        }
+        return h;
+    }
+
+    private long digestWithSite(long before, int s) {
+        long h = before;
+        for (int what = 0; what < OF_SITE; what++) {
+            h = 31 * h + ofSite(s, what);
+        }
+        for (int what = 0; what < OF_SITE_RUN; what++) {
+            h = 31 * h + ofSiteRun(s, what);
+        }
+        return h;
+    }
+
+    private int ofMethod(int m, int what) {
+        switch (what) {
+            case 0:
+                return methods.lines(m);
+            case 1:
+                return sites.inMethod(m);
+            case 2:
+                return siteFates.keptIn(m);
+            case 3:
+                return siteFates.idleLines(m);
+            default:
+                return methods.calledBy(m);
+        }
+    }
+
+    private int ofLine(int m, int i, int what) {
+        switch (what) {
+            case 0:
+                return methods.sort(m, i);
+            case 1:
+                return methods.name(m, i);
+            case 2:
+                return methods.hasOther(m, i) ? methods.other(m, i) : NONE;
+            case 3:
+                return methods.sort(m, i) == CALL ? methods.callee(m, i) : NONE;
+            default:
+                return sites.ofLine(m, i);
+        }
+    }
+
+    private int ofSite(int s, int what) {
+        switch (what) {
+            case 0:
+                return sites.methodOf(s);
+            case 1:
+                return sites.lineOf(s);
+            case 2:
+                return siteFates.ofSite(s);
+            default:
+                return mays.inField(s);
+        }
+    }
+
+    private int ofRun(int what) {
+        switch (what) {
+            case 0:
+                return trial.failed() ? 1 : 0;
+            case 1:
+                return trial.made();
+            case 2:
+                return trial.locks();
+            case 3:
+                return trial.idleLocks();
+            case 4:
+                return trial.calls();
+            default:
+                return trial.leaks();
+        }
+    }
+
+    private int ofSiteRun(int s, int what) {
+        switch (what) {
+            case 0:
+                return trial.madeOf(s);
+            case 1:
+                return trial.leaksOf(s);
+            default:
+                return trial.locksOf(s);
+        }
+    }
+
+    private int ofAll(int what) {
         switch (what) {
             case 0:
                 return timesBad;
@@ -243,57 +321,10 @@ public final class KeptInside {
             case 4:
                 return methods.count();
             case 5:
-                return siteCount();
-            case 6:
-                return states.count();
+                return sites.count();
             default:
-                return refusedAsBad();
+                return states.count();
         }
-    }
-
-    public long digest() {
-        long h = 2503;
-        for (int what = 0; what < 7; what++) {
-            h = 31 * h + told(what);
-        }
-        for (int m = 0; m < methods.count(); m++) {
-            h = digestOfMethod(h, m);
-        }
-        for (int s = 0; s < siteCount(); s++) {
-            h = digestOfSite(h, s);
-        }
-        h = 31 * h + open();
-        for (int what = 0; what < 6; what++) {
-            h = 31 * h + run(what);
-        }
-        return 31 * h + held();
-    }
-
-    private long digestOfMethod(long before, int m) {
-        long h = before;
-        for (int what = 0; what < 5; what++) {
-            h = 31 * h + of(m, what);
-        }
-        for (int x = 0; x < NAMES; x++) {
-            h = 31 * h + may(m, x);
-        }
-        for (int i = 0; i < methods.lines(m); i++) {
-            for (int what = 0; what < 5; what++) {
-                h = 31 * h + line(m, i, what);
-            }
-        }
-        return h;
-    }
-
-    private long digestOfSite(long before, int s) {
-        long h = before;
-        for (int what = 0; what < 4; what++) {
-            h = 31 * h + site(s, what);
-        }
-        for (int what = 0; what < 3; what++) {
-            h = 31 * h + ran(s, what);
-        }
-        return h;
     }
 
     private int refusedAsBad() {
@@ -315,9 +346,10 @@ public final class KeptInside {
         return number < 0 || number >= bound;
     }
 
-    private int siteCount() {
-        findMays();
-        return sites.count();
+    /** Goes ahead of every change of METHODS that can be taken back. */
+    private void leaveState() {
+        states.keep(methods);
+        forgetFindings();
     }
 
     private void forgetFindings() {
@@ -328,8 +360,8 @@ public final class KeptInside {
     private void findMays() {
         if (!maysFound) {
             sites.number(methods);
-            sets.find();
-            fates.find();
+            mays.find();
+            siteFates.find();
             maysFound = true;
         }
     }
@@ -344,8 +376,6 @@ public final class KeptInside {
 
     /** THE TEXT as it was typed. */
     private static final class Text {
-        static final int END = -1;
-
         private final byte[] bytes = new byte[MOST_BYTES];
         private int length;
 
@@ -369,7 +399,7 @@ public final class KeptInside {
         }
 
         int at(int place) {
-            return isOutside(place, length) ? END : bytes[place];
+            return isOutside(place, length) ? NONE : bytes[place];
         }
     }
 
@@ -470,39 +500,115 @@ public final class KeptInside {
         }
 
         private int code(int m, int i) {
-            return hasLine(m, i) ? codes[m * MOST_LINES + i] : 0;
+            return m >= 0 && m < count && i >= 0 && i < lines[m] ? codes[m * MOST_LINES + i] : 0;
         }
     }
 
-    /** Reads THE TEXT into METHODS; once a FAULT is found nothing more is taken. */
-    private static final class Reader {
-        private static final String WORDS_OF_ONE = "pabrf";
-        private static final int WORD_F = 4, WORD_NEW = 5, WORD_LOCK = 6;
+    /**
+     * THE TEXT cut into signs and words, without its blanks, and how far they have been taken. A
+     * sign and a word of one letter are told by their byte; what no LINE has a use for is cut like
+     * the rest, as it is a FAULT only where the reader comes to it.
+     */
+    private static final class Tokens {
+        static final int END = -1, WORD_NEW = 128, WORD_LOCK = 129, OTHER_WORD = 130;
 
+        private final int[] kinds = new int[MOST_BYTES];
+        private final int[] places = new int[MOST_BYTES];
+        private int count;
+        private int next;
+        private int textLength;
+
+        int ahead() {
+            return next < count ? kinds[next] : END;
+        }
+
+        int place() {
+            return next < count ? places[next] : textLength;
+        }
+
+        void step() {
+            if (next < count) {
+                next++;
+            }
+        }
+
+        void cut(Text text) {
+            count = 0;
+            next = 0;
+            textLength = text.length();
+            int place = 0;
+            while (place < textLength) {
+                int length = Math.max(1, lettersFrom(text, place));
+                if (text.at(place) != ' ') {
+                    add(length == 1 ? text.at(place) : wordKind(text, place, length), place);
+                }
+                place += length;
+            }
+        }
+
+        private void add(int kind, int place) {
+            if (count < MOST_BYTES) {
+                kinds[count] = kind;
+                places[count] = place;
+                count++;
+            }
+        }
+
+        private static int lettersFrom(Text text, int place) {
+            int end = place;
+            while (end < text.length() && text.at(end) >= 'a' && text.at(end) <= 'z') {
+                end++;
+            }
+            return end - place;
+        }
+
+        private static int wordKind(Text text, int place, int length) {
+            if (spells(text, place, length, "new")) {
+                return WORD_NEW;
+            }
+            return spells(text, place, length, "lock") ? WORD_LOCK : OTHER_WORD;
+        }
+
+        private static boolean spells(Text text, int place, int length, String word) {
+            boolean same = word.length() == length;
+            for (int k = 0; k < length && same; k++) {
+                same = text.at(place + k) == word.charAt(k);
+            }
+            return same;
+        }
+    }
+
+    /** Reads THE TEXT into METHODS. The first FAULT stays; what is read behind it is of no use. */
+    private static final class Reader {
         private final Text text;
         private final Methods methods;
-        private int place;
+        private final Tokens tokens = new Tokens();
         private int fault;
 
         /** Whether a called METHOD is there is known only at the end of THE TEXT. */
         private final int[] firstCall = new int[MOST_METHODS];
+
+        /** The LINE that is being read. */
+        private int sort;
+        private int x;
+        private int y;
+        private int callee;
 
         Reader(Text text, Methods methods) {
             this.text = text;
             this.methods = methods;
         }
 
-        int findFault() {
-            place = 0;
+        /** Answers the FAULT; NONE: THE TEXT is well. */
+        int readAll() {
             fault = NONE;
+            tokens.cut(text);
             methods.becomeNone();
             Arrays.fill(firstCall, NONE);
-            for (int m = 0; m < MOST_METHODS && goesOn() && sign() != Text.END; m++) {
+            for (int m = 0; m < MOST_METHODS && fault == NONE && tokens.ahead() != Tokens.END; m++) {
                 readMethod(m);
             }
-            if (sign() != Text.END) {
-                refuse();
-            }
+            take(Tokens.END);
             return fault == NONE ? firstMissingCall() : fault;
         }
 
@@ -519,154 +625,115 @@ public final class KeptInside {
         private void readMethod(int m) {
             methods.addMethod();
             take('{');
-            for (int i = 0; i < MOST_LINES && goesOn() && sign() != '}'; i++) {
+            for (int i = 0; i < MOST_LINES && fault == NONE && tokens.ahead() != '}'; i++) {
                 readLine(m);
+                take(';');
+                methods.addLine(sort, x, y, callee);
             }
             take('}');
         }
 
         private void readLine(int m) {
-            if (sign() == 'G') {
-                place++;
+            y = 0;
+            callee = 0;
+            if (tokens.ahead() == 'G') {
+                sort = SHOW;
+                take('G');
                 take('=');
-                endLine(SHOW, takeName(), 0, 0);
-            } else if (wordAhead() == WORD_LOCK) {
-                takeWord(WORD_LOCK);
-                endLine(LOCK, takeName(), 0, 0);
+                x = takeName();
+            } else if (tokens.ahead() == Tokens.WORD_LOCK) {
+                sort = LOCK;
+                take(Tokens.WORD_LOCK);
+                x = takeName();
             } else {
-                readFromName(m, takeName());
+                x = takeName();
+                if (tokens.ahead() == '.') {
+                    readPut();
+                } else {
+                    take('=');
+                    readValue(m);
+                }
             }
         }
 
-        private void readFromName(int m, int x) {
-            if (goesOn() && sign() == '.') {
-                place++;
-                takeWord(WORD_F);
-                take('=');
-                endLine(PUT, x, takeName(), 0);
+        private void readPut() {
+            sort = PUT;
+            take('.');
+            take('f');
+            take('=');
+            y = takeName();
+        }
+
+        private void readValue(int m) {
+            int kind = tokens.ahead();
+            if (kind == 'G') {
+                sort = FETCH;
+                take('G');
+            } else if (kind == Tokens.WORD_NEW) {
+                sort = MAKE;
+                take(Tokens.WORD_NEW);
+            } else if (kind > '0' + m && kind < '0' + MOST_METHODS) {
+                sort = CALL;
+                callee = kind - '0';
+                noteCall();
+                take(kind);
+                take('(');
+                y = takeName();
+                take(')');
             } else {
-                take('=');
-                readValue(m, x);
+                sort = COPY;
+                y = takeName();
+                if (tokens.ahead() == '.') {
+                    sort = TAKE;
+                    take('.');
+                    take('f');
+                }
             }
         }
 
-        private void readValue(int m, int x) {
-            int sign = sign();
-            if (sign == 'G') {
-                place++;
-                endLine(FETCH, x, 0, 0);
-            } else if (sign > '0' + m && sign < '0' + MOST_METHODS) {
-                readCall(x, sign - '0');
-            } else if (wordAhead() == WORD_NEW) {
-                takeWord(WORD_NEW);
-                endLine(MAKE, x, 0, 0);
-            } else {
-                readFromOther(x, takeName());
-            }
-        }
-
-        private void readCall(int x, int callee) {
+        private void noteCall() {
             if (!isOutside(callee, MOST_METHODS) && firstCall[callee] == NONE) {
-                firstCall[callee] = place;
+                firstCall[callee] = tokens.place();
             }
-            place++;
-            take('(');
-            int y = takeName();
-            take(')');
-            endLine(CALL, x, y, callee);
-        }
-
-        private void readFromOther(int x, int y) {
-            if (goesOn() && sign() == '.') {
-                place++;
-                takeWord(WORD_F);
-                endLine(TAKE, x, y, 0);
-            } else {
-                endLine(COPY, x, y, 0);
-            }
-        }
-
-        private void endLine(int sort, int x, int y, int callee) {
-            take(';');
-            if (goesOn()) {
-                methods.addLine(sort, x, y, callee);
-            }
-        }
-
-        private boolean goesOn() {
-            return fault == NONE;
-        }
-
-        private void refuse() {
-            if (goesOn()) {
-                fault = place;
-            }
-        }
-
-        /** The next byte that is no blank; the place goes to it, so that a FAULT is told there. */
-        private int sign() {
-            while (place < text.length() && text.at(place) == ' ') {
-                place++;
-            }
-            return text.at(place);
         }
 
         private void take(int wanted) {
-            if (goesOn() && sign() == wanted) {
-                place++;
+            if (tokens.ahead() == wanted) {
+                tokens.step();
             } else {
                 refuse();
+            }
+        }
+
+        private void refuse() {
+            if (fault == NONE) {
+                fault = tokens.place();
             }
         }
 
         private int takeName() {
-            int word = wordAhead();
-            if (goesOn() && !isOutside(word, NAMES)) {
-                place++;
-                return word;
-            }
-            refuse();
-            return 0;
-        }
-
-        private void takeWord(int wanted) {
-            if (goesOn() && wordAhead() == wanted) {
-                place = wordEnd();
-            } else {
+            int name = nameOf(tokens.ahead());
+            if (name == NONE) {
                 refuse();
+                return PARAMETER;
             }
+            tokens.step();
+            return name;
         }
 
-        private int wordAhead() {
-            int first = sign();
-            int length = wordEnd() - place;
-            if (length == 1) {
-                return WORDS_OF_ONE.indexOf((char) first);
+        private static int nameOf(int word) {
+            switch (word) {
+                case 'p':
+                    return 0;
+                case 'a':
+                    return 1;
+                case 'b':
+                    return 2;
+                case 'r':
+                    return 3;
+                default:
+                    return NONE;
             }
-            if (spells("new", length)) {
-                return WORD_NEW;
-            }
-            return spells("lock", length) ? WORD_LOCK : NONE;
-        }
-
-        private int wordEnd() {
-            int end = place;
-            while (end < text.length() && text.at(end) >= 'a' && text.at(end) <= 'z') {
-                end++;
-            }
-            return end;
-        }
-
-        private boolean spells(String word, int length) {
-            if (word.length() != length) {
-                return false;
-            }
-            for (int k = 0; k < length; k++) {
-                if (text.at(place + k) != word.charAt(k)) {
-                    return false;
-                }
-            }
-            return true;
         }
     }
 
@@ -721,11 +788,11 @@ public final class KeptInside {
             return count;
         }
 
-        int method(int s) {
+        int methodOf(int s) {
             return isOutside(s, count) ? NONE : places[s] / MOST_LINES;
         }
 
-        int line(int s) {
+        int lineOf(int s) {
             return isOutside(s, count) ? NONE : places[s] % MOST_LINES;
         }
 
@@ -777,15 +844,15 @@ public final class KeptInside {
             this.sites = sites;
         }
 
-        int ofName(int m, int x) {
+        int inName(int m, int x) {
             return isOutside(m, MOST_METHODS) || isOutside(x, NAMES) ? 0 : names[m * NAMES + x];
         }
 
-        int ofField(int s) {
+        int inField(int s) {
             return isOutside(s, MOST_SITES) ? 0 : fields[s];
         }
 
-        int ofOpenPlace() {
+        int inOpenPlace() {
             return openPlace;
         }
 
@@ -794,7 +861,7 @@ public final class KeptInside {
             int before = 0;
             for (int round = 0; round <= MOST_SITES && reached != before; round++) {
                 before = reached;
-                reached |= ofFields(reached);
+                reached |= inFields(reached);
             }
             return reached;
         }
@@ -806,43 +873,39 @@ public final class KeptInside {
             grew = true;
             for (int round = 0; round < MOST_ROUNDS && grew; round++) {
                 grew = false;
-                addByAllLines();
-            }
-        }
-
-        private void addByAllLines() {
-            for (int m = 0; m < methods.count(); m++) {
-                for (int i = 0; i < methods.lines(m); i++) {
-                    addByLine(m, i);
+                for (int m = 0; m < methods.count(); m++) {
+                    for (int i = 0; i < methods.lines(m); i++) {
+                        addByLine(m, i);
+                    }
                 }
             }
         }
 
         private void addByLine(int m, int i) {
             int x = methods.name(m, i);
-            int ofOther = ofName(m, methods.other(m, i));
+            int inOther = inName(m, methods.other(m, i));
             switch (methods.sort(m, i)) {
                 case MAKE:
                     addToName(m, x, 1 << sites.ofLine(m, i));
                     break;
                 case COPY:
-                    addToName(m, x, ofOther);
+                    addToName(m, x, inOther);
                     break;
                 case PUT:
-                    addToFields(ofName(m, x), ofOther);
+                    addToFields(inName(m, x), inOther);
                     break;
                 case TAKE:
-                    addToName(m, x, ofFields(ofOther));
+                    addToName(m, x, inFields(inOther));
                     break;
                 case SHOW:
-                    addToOpenPlace(ofName(m, x));
+                    addToOpenPlace(inName(m, x));
                     break;
                 case FETCH:
                     addToName(m, x, openPlace);
                     break;
                 case CALL:
-                    addToName(methods.callee(m, i), PARAMETER, ofOther);
-                    addToName(m, x, ofName(methods.callee(m, i), RESULT));
+                    addToName(methods.callee(m, i), PARAMETER, inOther);
+                    addToName(m, x, inName(methods.callee(m, i), RESULT));
                     break;
                 default:
                     break;
@@ -850,9 +913,12 @@ public final class KeptInside {
         }
 
         private void addToName(int m, int x, int more) {
-            int had = ofName(m, x);
-            if ((had | more) != had && !isOutside(m, MOST_METHODS) && !isOutside(x, NAMES)) {
-                names[m * NAMES + x] = had | more;
+            if (isOutside(m, MOST_METHODS) || isOutside(x, NAMES)) {
+                return;
+            }
+            int at = m * NAMES + x;
+            if ((names[at] | more) != names[at]) {
+                names[at] |= more;
                 grew = true;
             }
         }
@@ -873,7 +939,7 @@ public final class KeptInside {
             }
         }
 
-        private int ofFields(int holders) {
+        private int inFields(int holders) {
             int all = 0;
             for (int s = 0; s < sites.count(); s++) {
                 if ((holders >> s & 1) == 1) {
@@ -888,14 +954,14 @@ public final class KeptInside {
     private static final class Fates {
         private final Methods methods;
         private final Sites sites;
-        private final MaySets sets;
+        private final MaySets mays;
         private final int[] ofSites = new int[MOST_SITES];
         private final int[] idle = new int[MOST_METHODS];
 
-        Fates(Methods methods, Sites sites, MaySets sets) {
+        Fates(Methods methods, Sites sites, MaySets mays) {
             this.methods = methods;
             this.sites = sites;
-            this.sets = sets;
+            this.mays = mays;
         }
 
         int ofSite(int s) {
@@ -919,7 +985,7 @@ public final class KeptInside {
         int keptIn(int m) {
             int count = 0;
             for (int s = 0; s < sites.count(); s++) {
-                if (sites.method(s) == m && ofSites[s] == FATE_KEPT) {
+                if (sites.methodOf(s) == m && ofSites[s] == FATE_KEPT) {
                     count++;
                 }
             }
@@ -927,9 +993,9 @@ public final class KeptInside {
         }
 
         void find() {
-            int open = sets.reachedFrom(sets.ofOpenPlace());
+            int open = mays.reachedFrom(mays.inOpenPlace());
             for (int m = 0; m < methods.count(); m++) {
-                int out = sets.reachedFrom(sets.ofName(m, PARAMETER) | sets.ofName(m, RESULT));
+                int out = mays.reachedFrom(mays.inName(m, PARAMETER) | mays.inName(m, RESULT));
                 giveFates(m, open, out);
             }
             int kept = allKept();
@@ -940,7 +1006,7 @@ public final class KeptInside {
 
         private void giveFates(int m, int open, int out) {
             for (int s = 0; s < sites.count(); s++) {
-                if (sites.method(s) == m) {
+                if (sites.methodOf(s) == m) {
                     ofSites[s] = fateOf(open >> s & 1, out >> s & 1);
                 }
             }
@@ -966,7 +1032,7 @@ public final class KeptInside {
         private int idleAmong(int m, int kept) {
             int found = 0;
             for (int i = 0; i < methods.lines(m); i++) {
-                int locked = sets.ofName(m, methods.name(m, i));
+                int locked = mays.inName(m, methods.name(m, i));
                 if (methods.sort(m, i) == LOCK && locked != 0 && (locked & ~kept) == 0) {
                     found |= 1 << i;
                 }
@@ -1174,7 +1240,7 @@ public final class KeptInside {
             }
         }
 
-        /** A CALL that ends well has made one THING of each of its SITES: none is left to find then. */
+        /** A CALL that ends well has made one THING of each of its SITES; once all are found, enough. */
         private void findLeaks(int m, int call, int given, int result) {
             int left = sites.inMethod(m);
             left = followFrom(result, call, left);
