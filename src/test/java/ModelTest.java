@@ -16,7 +16,10 @@ import java.util.regex.Pattern;
  * the same.
  */
 public final class ModelTest {
-    private static final int RUNS = 1500;
+    private static final int RUNS = 2000;
+
+    /** Draws of SORTS: all alike, much made, many calls, such as never FAIL, fields and locks. */
+    private static final String[] SORTS = {"01234567", "0000123456", "0777777", "01457", "0001223366"};
     private static long drawn = 20261117;
 
     private ModelTest() {
@@ -99,24 +102,29 @@ public final class ModelTest {
         StringBuilder text = new StringBuilder();
         int methods = draw(20) == 0 ? 5 : 1 + draw(4);
         int blanks = draw(3) == 0 ? 4 : 0;
-        boolean careful = draw(3) != 0;
+        String sorts = SORTS[draw(SORTS.length)];
         for (int m = 0; m < methods; m++) {
             addPart(text, "{", blanks);
             int lines = draw(25) == 0 ? 9 : draw(9);
             for (int i = 0; i < lines; i++) {
-                addLine(text, m, methods, blanks, careful && i < 2);
+                boolean calls = m + 1 < methods;
+                int sort = i < 1 && draw(3) != 0 ? 0 : sorts.charAt(draw(sorts.length())) - '0';
+                addLine(text, sort == 7 && !calls ? 0 : sort, calls ? callee(m, methods) : 0, blanks);
             }
             addPart(text, "}", blanks);
         }
         return text.length() > 203 ? text.substring(0, 203) : text.toString();
     }
 
-    private static void addLine(StringBuilder text, int m, int methods, int blanks, boolean makes) {
+    private static int callee(int m, int methods) {
+        return draw(60) == 0 ? draw(5) : m + 1 + draw(methods - m - 1) * draw(2);
+    }
+
+    private static void addLine(StringBuilder text, int sort, int callee, int blanks) {
         String x = name();
         String y = name();
-        int sort = makes ? 0 : draw(10);
         String[] parts;
-        if (sort == 0 || sort == 8) {
+        if (sort == 0) {
             parts = new String[] {x, "=", "new"};
         } else if (sort == 1) {
             parts = new String[] {x, "=", y};
@@ -130,11 +138,8 @@ public final class ModelTest {
             parts = new String[] {x, "=", "G"};
         } else if (sort == 6) {
             parts = new String[] {"lock ", x};
-        } else if (m + 1 < methods) {
-            int callee = draw(30) == 0 ? draw(5) : m + 1 + draw(methods - m - 1);
-            parts = new String[] {x, "=", "" + callee, "(", y, ")"};
         } else {
-            parts = new String[] {x, "=", "new"};
+            parts = new String[] {x, "=", "" + callee, "(", y, ")"};
         }
         for (String part : parts) {
             addPart(text, part, blanks);

@@ -149,6 +149,13 @@ public final class PromisesTest {
         fault("{a=ne w;}", 3);
         fault("{ab=a;}", 1);
         fault("{a=ab;}", 3);
+        fault("{az=a;}", 1);
+        fault("{a=zb;}", 3);
+        fault("{a=newz;}", 3);
+        fault("{a=new`;}", 6);
+        fault("{a=b{;}", 4);
+        fault("{a=now;}", 3);
+        fault("{lick a;}", 1);
         fault("{a=New;}", 3);
         fault("{a=g;}", 3);
         fault("{g=a;}", 1);
@@ -537,6 +544,17 @@ public final class PromisesTest {
         }
         Check.due("back(), older ones lost", five.back(), NO);
         Check.due("METHODS", five.told(4), 1);
+        // each of the five is another one
+        KeptInside eight = Check.read("{a=new;b=p;r.f=a;p=b.f;G=r;a=G;lock b;r=new;}", 1);
+        for (int left = 7; left >= 0; left--) {
+            Check.due("drops() to " + left, eight.drops(0, 0), left);
+        }
+        for (int lines = 1; lines <= 5; lines++) {
+            Check.due("back() to LINES " + lines, eight.back(), 5 - lines);
+            Check.due("LINES", eight.of(0, 0), lines);
+            Check.due("SORT of the last", eight.line(0, lines - 1, 0), 0);
+            Check.due("SORT of the first", eight.line(0, 0, 0), (8 - lines) % 7);
+        }
         // what is refused leaves none
         five.drops(7, 7);
         five.swaps(0, 1);
