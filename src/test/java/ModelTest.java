@@ -22,6 +22,11 @@ public final class ModelTest {
     private static final String[] SORTS = {"01234567", "0000123456", "0777777", "01457", "0001223366"};
     private static long drawn = 20261117;
 
+    /** All SORTS and blanks; as many METHODS and LINES as can be; words and figures that are not well. */
+    private static final String[] TEXTS = {
+        "{a=new;b=a;a.f=b;b=a.f;G=a;a=G;lock a;r=1(p);} {r=2(p); lock r ;}{ }",
+        "{}{}{}{a=b;a=b;a=b;a=b;a=b;a=b;a=b;G=b;}", "{b=3(a);a=1(b);}{a=2(b);}{}", "{a=ne w;lock b;}"};
+
     private ModelTest() {
     }
 
@@ -29,7 +34,35 @@ public final class ModelTest {
         for (int run = 0; run < RUNS; run++) {
             oneRun(run);
         }
+        for (String text : TEXTS) {
+            everyByteChanged(text);
+        }
         Check.end("ModelTest");
+    }
+
+    /** Each of the 128 bytes in place of each byte, and put ahead of it; each byte left out; each beginning. */
+    private static void everyByteChanged(String text) {
+        for (int at = 0; at <= text.length(); at++) {
+            String ahead = text.substring(0, at);
+            String rest = text.substring(Math.min(at + 1, text.length()));
+            for (int c = 0; c < 128; c++) {
+                compareReading(ahead + (char) c + rest);
+                compareReading(ahead + (char) c + text.substring(at));
+            }
+            compareReading(ahead + rest);
+            compareReading(ahead);
+        }
+    }
+
+    private static void compareReading(String text) {
+        KeptInside k = new KeptInside();
+        Check.typeAll(k, text);
+        List<List<Line>> found = new ArrayList<>();
+        int fault = TextModel.read(text, found);
+        Check.due("reads of " + text, k.reads(), fault >= 0 ? -10 - fault : found.size());
+        for (int m = 0; fault < 0 && m < found.size(); m++) {
+            Check.due("LINES of METHOD " + m + " of " + text, k.of(m, 0), found.get(m).size());
+        }
     }
 
     private static int draw(int bound) {
@@ -41,7 +74,8 @@ public final class ModelTest {
         KeptInside k = new KeptInside();
         Model model = new Model();
         int calls = 0;
-        while (calls < 300) {
+        // the longest round is of 219 calls: all stay within the 512 that are promised
+        while (calls < 290) {
             String where = "run " + run + ", call " + calls;
             int kind = draw(14);
             if (kind < 4) {
@@ -69,7 +103,7 @@ public final class ModelTest {
                 Check.due(where + " reads of " + model.text, k.reads(), model.reads());
             }
             compareSome(where, k, model);
-            calls += 8;
+            calls += 13;
         }
         Check.due("run " + run + " digest", k.digest(), model.digest());
     }
