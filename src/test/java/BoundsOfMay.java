@@ -36,6 +36,17 @@ final class BoundsOfMay {
         KeptInside ring = Check.read("{a=1(a);}{r=p;b=new;G=b;p=G;}", 2);
         Check.mays("a ring through a call", ring, 0, 0, 1, 0, 0);
         Check.mays("a ring through a call", ring, 1, 1, 0, 1, 1);
+        KeptInside fields = Check.read("{r=a.f;a.f=b;a=new;b=new;}", 1);
+        Check.mays("f, asked for ahead of being filled", fields, 0, 0, 1, 2, 2);
+        KeptInside less = Check.read("{a=new;b=a;p=b;r=p;}", 1);
+        Check.mays("as long as b has it", less, 0, 1, 1, 1, 1);
+        less.drops(0, 1);
+        Check.mays("the least ones of what is left", less, 0, 0, 1, 0, 0);
+        less.drops(0, 0);
+        Check.mays("the least ones of what is left", less, 0, 0, 0, 0, 0);
+        less.back();
+        less.back();
+        Check.mays("as it was", less, 0, 1, 1, 1, 1);
         KeptInside few = Check.read("{a=new;b=new;}{a=b;}", 2);
         Check.mays("nothing but what must be", few, 0, 0, 1, 2, 0);
         Check.mays("nothing but what must be", few, 1, 0, 0, 0, 0);
@@ -60,6 +71,7 @@ final class BoundsOfMay {
         Check.mays("not the other way", Check.read("{a=new;b=new;b=a;}", 1), 0, 0, 1, 3, 0);
         Check.mays("none of none", Check.read("{a=new;b=p;}", 1), 0, 0, 1, 0, 0);
         Check.mays("itself", Check.read("{a=new;a=a;}", 1), 0, 0, 1, 0, 0);
+        Check.mays("of two that share a SITE", Check.read("{b=new;p=new;a=new;p=b;a=b;r=p;r=a;}", 1), 0, 3, 5, 1, 7);
     }
 
     private static void fOfXIsY() {
@@ -69,6 +81,7 @@ final class BoundsOfMay {
         fields("{a=new;a.f=b;}", 0);
         fields("{a=new;a.f=a;}", 1);
         fields("{a=new;b=new;a.f=b;b.f=a;a.f=a;}", 3, 1);
+        fields("{b=new;p=new;a=new;p=b;a=b;r=new;r.f=p;r.f=a;}", 0, 0, 0, 7);
         Check.mays("NAMES stay", Check.read("{a=new;b=new;a.f=b;}", 1), 0, 0, 1, 2, 0);
     }
 
@@ -93,6 +106,7 @@ final class BoundsOfMay {
         KeptInside k = Check.read("{a=new;b=new;G=a;G=b;r=G;}", 1);
         Check.due("all that is put", k.open(), 3);
         Check.mays("all that is taken", k, 0, 0, 1, 2, 3);
+        Check.due("of two that share a SITE", Check.read("{b=new;p=new;a=new;p=b;a=b;G=p;G=a;}", 1).open(), 7);
         KeptInside none = Check.read("{a=new;G=b;r=G;}", 1);
         Check.due("none put", none.open(), 0);
         Check.mays("none taken", none, 0, 0, 1, 0, 0);

@@ -168,6 +168,9 @@ final class BoundsOfRun {
         leaks("{a=new;b=new;p=new;a.f=b;b.f=p;a.f=r;G=a;}", 1);
         leaks("{a=new;b=new;a.f=b;b.f=a;G=a;}", 2);
         leaks("{a=new;a.f=a;G=a;}", 1);
+        // a ring is gone round once, whatever else was made
+        leaks("{a=new;b=new;p=new;a.f=b;b.f=a;G=a;}", 2);
+        leaks("{a=new;b=new;p=new;p=new;a.f=b;b.f=b;G=a;}", 2);
         leaks("{a=new;G=a;b=1(b);}{a=new;b=G;b.f=a;}", 2);
         // a long chain: each CALL of METHOD 3 holds what the one ahead of it made
         leaks("{" + "a=1(a);".repeat(7) + "G=a;}{" + "p=2(p);".repeat(7) + "r=p;}{" + "p=3(p);".repeat(7)
@@ -197,6 +200,7 @@ final class BoundsOfRun {
         leaks("{a=new;r=new;r.f=a;a.f=r;}", 2);
         // by all ways at once it LEAKS once
         leaks("{a=new;b=1(a);}{r=new;p.f=r;G=r;}", 1);
+        leaks("{a=new;b=1(a);}{r=new;a=new;b=new;p.f=r;G=r;}", 1);
         // r of a METHOD that calls is not r of the one that is called
         leaks("{r=new;a=1(r);r=b;}{a=new;}", 0);
     }

@@ -217,6 +217,21 @@ final class BoundsOfRunQuestions {
         held("{}{a=new;G=a;}", NONE);
         held("{lock b;a=new;G=a;}", NONE);
         held("{a=new;G=a;G=b;lock b;}", NONE);
+        // a RUN begins with nothing in G, whatever one of other METHODS left there
+        KeptInside k = Check.read("{a=new;b=G;G=a;}", 1);
+        Check.due("held()", k.held(), 0);
+        k.drops(0, 2);
+        Check.due("held(), never put", k.held(), NONE);
+        k.back();
+        Check.due("held(), put again", k.held(), 0);
+        k.drops(0, 0);
+        Check.due("held(), nothing made", k.held(), NONE);
+        KeptInside takes = Check.read("{a=new;G=a;}", 1);
+        Check.due("held()", takes.held(), 0);
+        takes.clear();
+        Check.typeAll(takes, "{b=new;a=G;lock a;}");
+        takes.reads();
+        Check.due("FAILS, as G holds nothing", takes.run(0), 1);
     }
 
     private static void promise18Refused() {

@@ -1,4 +1,5 @@
 import java.io.IOException;
+import java.nio.charset.StandardCharsets;
 import java.nio.file.Files;
 import java.nio.file.Path;
 import java.util.LinkedHashMap;
@@ -16,11 +17,14 @@ final class Sentences {
     private Sentences() {
     }
 
-    /** The checks from here on are of these words, which stand once in the part that begins so. */
+    /** The checks from here on are of these words, which stand once in that part of the document. */
     static void test(String part, String words) {
         Check.about(part + " '" + words + "': ");
-        if (PARTS.isEmpty()) {
+        if (PARTS.isEmpty() && Files.exists(DOCUMENT)) {
             readDocument();
+        }
+        if (PARTS.isEmpty()) {
+            return;
         }
         String text = PARTS.getOrDefault(part, "");
         int at = text.indexOf(words);
@@ -33,6 +37,9 @@ final class Sentences {
 
     static void end() {
         Check.about("");
+        if (PARTS.isEmpty()) {
+            System.out.println("no " + DOCUMENT + " here: the words of the tests were not looked for in it");
+        }
         for (Map.Entry<String, String> part : PARTS.entrySet()) {
             boolean wanted = part.getKey().equals("Terms") || part.getKey().startsWith("Promise");
             if (wanted) {
@@ -55,7 +62,7 @@ final class Sentences {
     private static void readDocument() {
         String part = "";
         try {
-            for (String line : Files.readAllLines(DOCUMENT)) {
+            for (String line : Files.readAllLines(DOCUMENT, StandardCharsets.ISO_8859_1)) {
                 if (line.startsWith("#")) {
                     part = line.replaceAll("^#+ ", "").replaceAll(":.*", "");
                     PARTS.put(part, "");
